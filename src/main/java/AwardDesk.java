@@ -414,7 +414,7 @@ public final class AwardDesk {
 
     /** Finds the way of the least price and makes it road. */
     private static final class RoadMaker {
-        private static final int UNREACHED = Integer.MAX_VALUE, EXPENSE_OF_CELL = 10;
+        private static final int UNREACHED = 1000000000, EXPENSE_OF_CELL = 10;
 
         private final Ground ground;
         private final int[] reach = new int[MOST_CELLS];
@@ -517,7 +517,7 @@ public final class AwardDesk {
         }
     }
 
-    /** Claimants, claims and objections, and what is judged of them. The closing is told, as coin asks for another one. */
+    /** Claimants, claims and objections, and how they are judged. The closing is told, as coin asks for another one. */
     private static final class Roll {
         private final Ground ground;
         int claimants, claims, objections;
@@ -835,7 +835,7 @@ public final class AwardDesk {
         // All rectangles of the largest land: (10 * 11 / 2) * (8 * 9 / 2).
         private static final int MOST_SITES = 1980;
         private static final int SITE_BITS = 11, SITE_MASK = 2047;
-        private static final int WORD = 64, NO_BEST = Integer.MAX_VALUE, MOVED = 1000;
+        private static final int WORD = 64, NO_BEST = 1000000000, MOVED = 1000;
 
         private final Ground ground;
         private final Roll roll;
