@@ -356,11 +356,6 @@ public final class AwardDesk {
             return marks[USE][cell] != CLOSE && marks[ROAD][cell] == 0;
         }
 
-        /** Whether a cell is plain and of a use: common or field. */
-        boolean isPlainOf(int cell, int use) {
-            return marks[USE][cell] == use && marks[ROAD][cell] == 0;
-        }
-
         /** The cell beside another one: above, left, right, below, so that their numbers rise; NONE at the border. */
         int beside(int cell, int side) {
             switch (side) {
@@ -582,10 +577,10 @@ public final class AwardDesk {
         }
 
         int holderAt(int cell, int day, int closing) {
-            if (!ground.isPlainOf(cell, FIELD)) return NONE;
-            int last = Math.min(day, closing), best = NONE;
+            if (ground.marks[USE][cell] != FIELD || ground.marks[ROAD][cell] == 1) return NONE;
+            int best = NONE;
             for (int i = 0; i < claims; i++) {
-                if (claimWhat[i] != cell || claimDay[i] > last) continue;
+                if (claimWhat[i] != cell || claimDay[i] > day || claimDay[i] > closing) continue;
                 boolean better = best == NONE || claimProof[i] > claimProof[best]
                     || (claimProof[i] == claimProof[best] && claimDay[i] < claimDay[best]);
                 if (better) best = i;
@@ -594,9 +589,11 @@ public final class AwardDesk {
         }
 
         int gatesOf(int claimant, int day, int closing) {
-            int last = Math.min(day, closing), most = 0;
+            int most = 0;
             for (int i = 0; i < claims; i++) {
-                if (claimBy[i] != claimant || claimProof[i] == 0 || claimDay[i] > last) continue;
+                if (claimBy[i] != claimant || claimProof[i] == 0) continue;
+                if (claimDay[i] > day || claimDay[i] > closing) continue;
+                // The number of a cell is below the base, so that a claim on one never is the most.
                 most = Math.max(most, claimWhat[i] - GATES_BASE);
             }
             return most;
@@ -606,10 +603,9 @@ public final class AwardDesk {
             int cell = objectCell[objection], day = objectDay[objection], by = objectBy[objection];
             int holder = holderAt(cell, day, closing);
             if (holder == NONE || claimBy[holder] == by) return false;
-            int last = Math.min(day, closing);
             for (int i = 0; i < claims; i++) {
-                boolean counts = claimBy[i] == by && claimWhat[i] == cell && claimDay[i] <= last;
-                if (counts && claimProof[i] >= claimProof[holder]) return true;
+                if (claimBy[i] != by || claimWhat[i] != cell || claimDay[i] > day || claimDay[i] > closing) continue;
+                if (claimProof[i] >= claimProof[holder]) return true;
             }
             return false;
         }
@@ -666,7 +662,7 @@ public final class AwardDesk {
             int lord = roll.firstOfKind(LORD), common = 0;
             for (int cell = 0; cell < ground.size; cell++) {
                 int soil = ground.marks[SOIL][cell];
-                if (ground.isPlainOf(cell, COMMON)) common += soil;
+                if (ground.isPlain(cell) && ground.marks[USE][cell] == COMMON) common += soil;
                 int holder = roll.holderAt(cell, day, closing);
                 if (holder == NONE) continue;
                 int objector = roll.upheldObjector(cell, day, closing), owner = roll.claimantOf(holder);

@@ -77,6 +77,10 @@ public final class ClaimsTest {
         CHECK.due("none is behind day 999", x.count(2), 0);
         x.rule(0, 38);
         CHECK.due("days 39 and 999 are behind 38", x.count(2), 2);
+        AwardDesk y = new AwardDesk();
+        y.claimant(0, 0);
+        y.claim(0, 0, 0, 501);
+        CHECK.due("the first is late", y.count(2), 1);
     }
 
     private static void withdraw() {
@@ -84,7 +88,13 @@ public final class ClaimsTest {
         CHECK.due("none", x.withdraw(), NO);
         x.claimant(0, 0);
         x.cell(3, 1, 1);
+        x.claimant(0, 0);
         x.claim(0, 3, 1, 10);
+        x.claim(1, 3, 1, 11);
+        x.object(1, 3, 11);
+        CHECK.due("upheld", x.upheld(0), 1);
+        x.withdraw();
+        CHECK.due("not by a claim that is no more", x.upheld(0), 0);
         x.claim(0, 3, 2, 10);
         CHECK.due("the second holds", x.holder(3, 10), 1);
         CHECK.due("one left", x.withdraw(), 1);

@@ -15,6 +15,8 @@ public final class DrawTest {
         rectorAlone();
         byDay();
         overTheLastCells();
+        overTheWords();
+        noRoadAtAll();
         refused();
         CHECK.end();
     }
@@ -207,6 +209,45 @@ public final class DrawTest {
         isPlot(x, 1, 79, 1, 1);
         CHECK.due("good", x.good(0, 0), 0);
         CHECK.due("good", x.good(1, 0), 0);
+    }
+
+    /** Cells of all numbers are told apart, wherever 64 of them may end. */
+    private static void overTheWords() {
+        int[] homes = {0, 64};
+        for (int home : homes) {
+            AwardDesk x = new AwardDesk();
+            x.land(10, 8);
+            x.claimant(1, home);
+            x.claimant(1, 64);
+            x.cell(1, 2, 1);
+            x.cell(65, 2, 1);
+            x.cell(20, 1, 1);
+            x.cell(21, 1, 1);
+            x.claim(0, 20, 1, 0);
+            x.claim(1, 21, 1, 0);
+            x.rule(3, 76);
+            x.rule(4, 0);
+            // Both are due one cell. By the roads are 0, 2, 11, and 64, 55, 66, 75.
+            CHECK.due("homes " + home + " and 64", x.draw(0, 20000, 0), home == 0 ? 0 : 2);
+            isPlot(x, 0, home == 0 ? 0 : 55, 1, 1);
+            isPlot(x, 1, 64, 1, 1);
+        }
+    }
+
+    private static void noRoadAtAll() {
+        AwardDesk x = new AwardDesk();
+        x.land(10, 8);
+        x.claimant(1, 0);
+        x.cell(0, 1, 1);
+        x.claim(0, 0, 1, 0);
+        x.rule(3, 70);
+        x.rule(4, 50);
+        CHECK.due("due", x.has(0, 1, 0), 10);
+        CHECK.due("no road", x.draw(0, 20000, 0), NONE);
+        x.cell(79, 2, 1);
+        // 9 is due, 59 is the most: rectangles from cell 2 or 20 to the corner fit, all nearer ones are too large.
+        CHECK.due("a road in the corner", x.draw(0, 20000, 0), 2);
+        CHECK.due("good", x.good(0, 0), 0);
     }
 
     private static void refused() {

@@ -104,6 +104,10 @@ public final class PlotsTest {
         CHECK.due("a slack of 4", x.good(1, 0), 4);
         x.cell(13, 2, 1);
         CHECK.due("by a road", x.good(1, 0), 0);
+        x.allot(1, 0, sizes(2, 1));
+        x.cell(0, 1, 2);
+        CHECK.due("the first cell is a close", x.good(1, 0), 1);
+        x.allot(1, 11, sizes(2, 2));
         // A plot ahead that goes beyond the land does not come in again at the left.
         x.allot(0, 9, sizes(10, 1));
         CHECK.due("no wrap", x.good(1, 0), 0);
@@ -184,6 +188,11 @@ public final class PlotsTest {
         CHECK.due("far from a part within", x.plot(1, FAR), 2);
         x.allot(0, 19, 12);
         CHECK.due("far from the upper left", x.plot(0, FAR), 7);
+        x.claimant(1, 6);
+        x.allot(2, 13, 12);
+        CHECK.due("far to the right and down", x.plot(2, FAR), 3);
+        x.allot(2, 0, 12);
+        CHECK.due("far to the left and up", x.plot(2, FAR), 2);
     }
 
     private static void hedgeSides() {
@@ -274,9 +283,9 @@ public final class PlotsTest {
         x.claim(1, 101, 1, 999);
         x.object(0, 0, 1);
         x.allot(1, 0, 12);
-        x.cell(3, 2, 1);
-        x.cell(4, 2, 1);
-        x.cell(4, 1, 2);
+        x.cell(0, 2, 1);
+        x.cell(19, 2, 1);
+        x.cell(19, 1, 2);
         x.survey(1, 1, 0);
         int[] want = {2, 3, 2, 1, 1, 2, 1};
         for (int what = 0; what <= 6; what++) CHECK.due("count(" + what + ")", x.count(what), want[what]);

@@ -7,6 +7,7 @@ public final class RoadTest {
         tiesAreGoneBackByLeastNumber();
         priceOfSoil();
         roadsAreCheap();
+        pricesToTheLast();
         closes();
         refused();
         expense();
@@ -78,6 +79,22 @@ public final class RoadTest {
         x.cell(1, 2, 1);
         CHECK.due("over the road of soil 9", x.road(0, 2), 2);
         isRoadJust(x, 6, 0, 1, 2);
+    }
+
+    /** Around a close in the middle: 1, 2, 5 or 3, 6, 7. Soils of 0, 0, 0 cost 303; so do 0, 1 and a road. */
+    private static void pricesToTheLast() {
+        for (int turn = 0; turn < 2; turn++) {
+            AwardDesk x = new AwardDesk();
+            x.land(3, 3);
+            for (int cell = 0; cell < 9; cell++) x.cell(cell, 0, 0);
+            x.cell(4, 1, 2);
+            int road = turn == 0 ? 1 : 3, worse = turn == 0 ? 2 : 6;
+            x.cell(road, 2, 1);
+            x.cell(worse, 0, 1);
+            CHECK.due("like prices", x.road(0, 8), turn == 0 ? 4 : 5);
+            if (turn == 0) isRoadJust(x, 9, 0, 1, 2, 5, 8);
+            else isRoadJust(x, 9, 0, 1, 2, 3, 5, 8);
+        }
     }
 
     private static void closes() {

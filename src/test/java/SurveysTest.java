@@ -175,6 +175,10 @@ public final class SurveysTest {
             CHECK.due("a soil of " + v, x.read(0), NO);
         }
         CHECK.due("nothing was read", x.told(0, 0), 1);
+        x.mark(0, 29, 0);
+        x.mark(0, 0, 10);
+        CHECK.due("the first soil counts, too", x.read(0), NO);
+        x.mark(0, 0, 0);
         x.mark(0, 29, 9);
         CHECK.due("a soil of 9", x.read(0), 30);
         CHECK.due("told", x.told(29, 0), 9);

@@ -14,6 +14,7 @@ public final class WorthsTest {
         objectors();
         copyAndLord();
         leftOver();
+        landForgetsRanks();
         rectorsDue();
         rates();
         coin();
@@ -91,6 +92,8 @@ public final class WorthsTest {
         CHECK.due("not late, not known", x.has(0, GATES, 500), 10);
         CHECK.due("not late, known", x.has(0, GATES, 501), 20);
         CHECK.due("the other has none", x.has(1, GATES, 999), 0);
+        x.withdraw();
+        CHECK.due("a claim that is no more", x.has(0, GATES, 501), 10);
         x.claim(0, 5, 3, 0);
         CHECK.due("a strip is no gate", x.has(1, GATES, 999), 0);
     }
@@ -103,8 +106,8 @@ public final class WorthsTest {
         x.claim(0, 103, 1, 0);
         x.claim(1, 105, 1, 0);
         x.claim(2, 103, 1, 9);
-        isHad(x, WEIGHT, 9, 114, 190, 114);
         CHECK.due("all weights", x.sum(WEIGHTS, 9), 418);
+        isHad(x, WEIGHT, 9, 114, 190, 114);
         isHad(x, WEIGHT, 8, 157, 262, 0);
         x.cell(0, 2, 1);
         isHad(x, WEIGHT, 9, 65, 109, 65);
@@ -166,6 +169,21 @@ public final class WorthsTest {
         x.claim(0, 101, 1, 12);
         isHad(x, WEIGHT, 12, 520, 210, 230, 0);
         CHECK.due("all weights", x.sum(WEIGHTS, 12), 960);
+    }
+
+    private static void landForgetsRanks() {
+        AwardDesk x = deskOf(3, 2, 1, 3, 4);
+        strip(x, 0, 5, 0, 1, 10);
+        x.claim(1, 0, 1, 11);
+        x.object(1, 0, 11);
+        isHad(x, WEIGHT, 11, 150, 150, 0);
+        x.land(3, 2);
+        x.claimant(2, 0);
+        x.rule(2, 50);
+        strip(x, 0, 5, 0, 1, 10);
+        isHad(x, WEIGHT, 11, 300);
+        isHad(x, DUE, 11, 10);
+        CHECK.due("no rector any more", x.sum(T, 11), 0);
     }
 
     private static void leftOver() {
