@@ -34,6 +34,10 @@ public final class LandTest {
         // 6 wide: from 0 to 6 is one step down, from 5 to 6 it is not one step.
         CHECK.due("road(0, 6)", x.road(0, 6), 2);
         CHECK.due("road(5, 12)", x.road(5, 12), 6);
+        CHECK.due("the first claimant", x.claimant(1, 0), 0);
+        CHECK.due("no plot", x.plot(0, 0), AwardDesk.NONE);
+        CHECK.due("no hedge", x.hedge(0, 0), AwardDesk.NONE);
+        CHECK.due("no survey", x.lose(0), AwardDesk.NOTHING);
     }
 
     private static void landIsRenewed() {
