@@ -356,6 +356,11 @@ public final class ClaimEdgesTest {
         CHECK.due("another one holds now", x.upheld(0), 1);
         x.object(1, CELL, 20);
         CHECK.due("they hold it themselves", x.upheld(1), 0);
+        AwardDesk y = desk();
+        y.claim(0, CELL, 1, 11);
+        y.claim(1, CELL, 1, 10);
+        y.object(0, CELL, 11);
+        CHECK.due("by the very first claim", y.upheld(0), 1);
     }
 
     private static void upheldWithAsMuchProof() {

@@ -8,6 +8,9 @@ public final class DrawEdgesTest {
         nobodyHasADue();
         onlyWhoHasADue();
         goodAndWithinTheLand();
+        notBeyondTheLastRow();
+        overTheLastCells();
+        byARoad();
         worthNotFartherThanSlack();
         order();
         putIfLess();
@@ -96,6 +99,69 @@ public final class DrawEdgesTest {
         CHECK.due("3 and 4 are", x.draw(DAY, 1, 0), 1);
         isPlot(x, 0, 3, 2, 1);
         CHECK.due("good", x.good(0, DAY), 0);
+    }
+
+    private static void notBeyondTheLastRow() {
+        CHECK.sentence("1 it is within THE LAND, all its CELLS PLAIN");
+        // 2 by 3: a road above, plain are 2, 4 and 5, a due of 3: no rectangle has all of them.
+        AwardDesk x = Village.plain(2, 3, 0);
+        x.cell(0, 2, 1);
+        x.cell(1, 2, 1);
+        x.cell(3, 1, 2);
+        Village.strip(x, 2, 1, 0, 1, DAY);
+        x.rule(4, 0);
+        CHECK.due("a due of 3", x.has(0, 1, DAY), 3);
+        CHECK.due("not one cell more below", x.draw(DAY, 20000, 0), NONE);
+        x.cell(4, 0, 2);
+        x.rule(3, 1);
+        CHECK.due("a due of 3", x.has(0, 1, DAY), 3);
+        CHECK.due("to the last row", x.draw(DAY, 1, 0), 1);
+        isPlot(x, 0, 2, 1, 2);
+    }
+
+    private static void overTheLastCells() {
+        CHECK.sentence("2 no CELL of it is in the PLOT of a CLAIMANT ahead");
+        // Any two cells of the most there may be are told apart, the last ones, too.
+        int[] homes = {0, 15, 16, 63, 64, 79};
+        for (int home : homes) {
+            for (int other = 0; other < 80; other++) {
+                if (other != home) twoCells(home, other);
+            }
+        }
+    }
+
+    /** Two plain cells, all others closes, a road beside each; the homes of both claimants are at one of the two. */
+    private static void twoCells(int home, int other) {
+        AwardDesk x = Village.plain(10, 8, home, home);
+        for (int cell = 0; cell < 80; cell++) x.cell(cell, 1, 2);
+        x.cell(beside(home, other), 2, 1);
+        x.cell(beside(other, home), 2, 1);
+        Village.strip(x, home, 1, 0, 1, DAY);
+        Village.strip(x, other, 1, 1, 1, DAY);
+        x.rule(4, 0);
+        int steps = Math.abs(home / 10 - other / 10) + Math.abs(home % 10 - other % 10);
+        CHECK.due("cells " + home + " and " + other, x.draw(DAY, 20000, 0), steps);
+        // Both ways cost the same: the first one counts.
+        isPlot(x, 0, Math.min(home, other), 1, 1);
+        isPlot(x, 1, Math.max(home, other), 1, 1);
+    }
+
+    private static int beside(int cell, int not) {
+        int left = cell % 10 > 0 ? cell - 1 : cell + 1, above = cell > 9 ? cell - 10 : cell + 10;
+        return left == not ? above : left;
+    }
+
+    private static void byARoad() {
+        CHECK.sentence("4 a CELL of it is BESIDE a ROAD");
+        for (int only = 0; only < 80; only++) {
+            AwardDesk x = Village.plain(10, 8, only);
+            for (int cell = 0; cell < 80; cell++) x.cell(cell, 1, 2);
+            Village.strip(x, only, 1, 0, 1, DAY);
+            CHECK.due("no road beside " + only, x.draw(DAY, 20000, 0), NONE);
+            x.cell(beside(only, NONE), 2, 1);
+            CHECK.due("a road beside " + only, x.draw(DAY, 1, 0), 0);
+            isPlot(x, 0, only, 1, 1);
+        }
     }
 
     private static void worthNotFartherThanSlack() {

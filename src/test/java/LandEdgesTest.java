@@ -5,6 +5,7 @@ public final class LandEdgesTest {
     private static final Check CHECK = new Check("LandEdgesTest");
 
     public static void main(String[] args) {
+        newObject();
         sizesOfLand();
         cellsAtFirst();
         marksOfCells();
@@ -17,6 +18,28 @@ public final class LandEdgesTest {
         expense();
         calls();
         CHECK.end();
+    }
+
+    private static void newObject() {
+        CHECK.sentence("All as at first; no CLAIMANTS, CLAIMS, OBJECTIONS.");
+        AwardDesk x = new AwardDesk();
+        for (int what = 0; what <= 6; what++) CHECK.due("count(" + what + ")", x.count(what), 0);
+        CHECK.due("no claimant", x.isOf(0, 0), BAD);
+        CHECK.due("no claim", x.withdraw(), NO);
+        CHECK.due("no objection", x.upheld(0), BAD);
+        for (int i = 0; i < 8; i++) {
+            CHECK.due("claimants from 0 on", x.claimant(i % 5, i), i);
+            CHECK.due("without a plot", x.plot(i, 0), NONE);
+            CHECK.due("good of none", x.good(i, 0), NONE);
+            CHECK.due("without a hedge", x.hedge(i, NONE), NONE);
+        }
+        CHECK.due("claims from 0 on", x.claim(0, 0, 0, 0), 0);
+        CHECK.due("objections from 0 on", x.object(0, 0, 0), 0);
+        int[] rules = {500, 900, 0, 0, 2};
+        for (int which = 0; which < 5; which++) CHECK.due("rule " + which, x.rule(which, 1), rules[which]);
+        AwardDesk other = new AwardDesk();
+        CHECK.due("one object is not another", other.count(0), 0);
+        CHECK.due("nor are its rules", other.rule(0, 1), 500);
     }
 
     private static void sizesOfLand() {
@@ -151,6 +174,14 @@ public final class LandEdgesTest {
         for (int i = 0; i < 8; i++) CHECK.due("room for claimants", full.claimant(i % 5, 0), i);
         for (int i = 0; i < 40; i++) CHECK.due("room for claims", full.claim(0, 0, 0, 0), i);
         for (int i = 0; i < 20; i++) CHECK.due("room for objections", full.object(0, 0, 0), i);
+        // Gates of claimants who are no more count for nothing.
+        AwardDesk gates = Village.plain(3, 2, 0, 0, 0);
+        for (int i = 0; i < 3; i++) gates.claim(i, 150, 1, 0);
+        CHECK.due("a third each", gates.has(2, 0, 0), 120);
+        gates.land(3, 2);
+        gates.claimant(1, 0);
+        gates.claim(0, 101, 1, 0);
+        CHECK.due("all of it", gates.has(0, 0, 0), 360);
     }
 
     private static void roadsBetweenTwo() {
@@ -201,11 +232,29 @@ public final class LandEdgesTest {
         x.cell(1, SOIL, 9);
         x.cell(1, ROAD, 1);
         CHECK.due("straight by the road", x.road(0, 2), 2);
+        likePrices();
         CHECK.sentence("All its CELLS become ROAD.");
         CHECK.due("the first one", x.told(0, ROAD), 1);
         CHECK.due("the one between", x.told(1, ROAD), 1);
         CHECK.due("the last one", x.told(2, ROAD), 1);
         CHECK.due("no other", x.count(5), 3);
+    }
+
+    /**
+     * Around a close in the middle of 3 by 3 there are two ways: by 1, 2, 5, which is gone back if both are alike, or by
+     * 3, 6, 7. Three soils of 0 cost 303, and so do a road, a soil of 0 and one of 1: any other price would part them.
+     */
+    private static void likePrices() {
+        for (int turn = 0; turn < 2; turn++) {
+            AwardDesk x = Village.plain(3, 3);
+            for (int cell = 0; cell < 9; cell++) x.cell(cell, SOIL, 0);
+            x.cell(4, USE, CLOSE);
+            x.cell(turn == 0 ? 1 : 3, ROAD, 1);
+            x.cell(turn == 0 ? 2 : 6, SOIL, 1);
+            x.road(0, 8);
+            CHECK.due("by 5", x.told(5, ROAD), 1);
+            CHECK.due("not by 7", x.told(7, ROAD), 0);
+        }
     }
 
     private static void roadsGoneBack() {
@@ -256,6 +305,7 @@ public final class LandEdgesTest {
         for (int cell = 0; cell < 80; cell += 2) laid += y.road(cell, cell + 1);
         CHECK.due("all the land", laid, 80);
         CHECK.due("800", y.sum(5, 0), 800);
+        CHECK.due("80 cells of road", y.count(5), 80);
         CHECK.due("no value is left", y.sum(0, 0), 0);
     }
 

@@ -319,6 +319,10 @@ public final class WorthEdgesTest {
         // 10 by dues of 4 and 3: 5.71 and 4.29.
         all(x, RATE, 1, 6, 4, 0);
         all(x, RATE, 0, 10, 0, 0);
+        x.rule(3, 6);
+        // A single due of 1 pays all.
+        all(x, DUE, 2, 1, 0, 0);
+        all(x, RATE, 2, 10, 0, 0);
         x.rule(3, 7);
         all(x, RATE, 2, 0, 0, 0);
         x.rule(3, 4);
