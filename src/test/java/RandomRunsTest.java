@@ -16,14 +16,21 @@ public final class RandomRunsTest {
         long seed = args.length > 1 ? Long.parseLong(args[1]) : 1;
         for (int run = 0; run < runs && CHECK.wrong() == 0; run++) {
             run(seed * 1000003 + run, run);
-            drawnRun(seed * 7000003 + run);
+            drawnRun(seed * 7000003 + run, false);
+            claimsRun(seed * 5000011 + run);
+            // Now and then a land of nearly all cells that there may be, for nearly all claimants that there may be.
+            if (run % 20 == 0) drawnRun(seed * 9000011 + run, true);
         }
         for (String name : RandomCalls.NAMES) {
             CHECK.isTrue(name + " was never answered with a sound answer", TOLD.getOrDefault(name, 0) > 0);
         }
+        String[] seldom = {"upheld()", "holder()", "fine()", "good()", "has(0)", "has(1)", "has(2)", "has(3)", "has(4)"};
+        for (String name : seldom) {
+            CHECK.isTrue(name + " was never above 0", TOLD.getOrDefault(name + " above 0", 0) > 0);
+        }
         String[] kinds = {" spent", " impossible", " near", " moved"};
         for (String kind : kinds) {
-            for (int plots = 1; plots <= 4; plots++) {
+            for (int plots = 1; plots <= 5; plots++) {
                 CHECK.isTrue("no draw of " + plots + kind, TOLD.getOrDefault("draw of " + plots + kind, 0) > 0);
             }
         }
@@ -60,21 +67,62 @@ public final class RandomRunsTest {
         }
     }
 
-    /** A run that is made for drawing: strips held by several claimants, and roads, and draws again and again. */
-    private static void drawnRun(long seed) throws Exception {
+    /** A run that is made for claims: a few strips that many claim on near days, objections, and all is asked for often. */
+    private static void claimsRun(long seed) throws Exception {
         RandomCalls calls = new RandomCalls(seed, 0);
         AwardDesk ours = new AwardDesk();
         PlainDesk theirs = new PlainDesk();
         StringBuilder told = new StringBuilder();
-        same(ours, theirs, "land", new int[] {3 + calls.upTo(4), 3 + calls.upTo(4)}, told);
-        int cells = theirs.cells.size(), people = 2 + calls.upTo(3);
+        same(ours, theirs, "land", new int[] {2 + calls.upTo(2), 2 + calls.upTo(1)}, told);
+        int cells = theirs.cells.size(), people = 1 + calls.upTo(7), strips = 1 + calls.upTo(3);
         for (int i = 0; i < people; i++) same(ours, theirs, "claimant", new int[] {calls.upTo(4), calls.upTo(cells - 1)}, told);
-        for (int i = 0; i < 2 + calls.upTo(10); i++) {
+        for (int strip = 0; strip < strips; strip++) same(ours, theirs, "cell", new int[] {strip, 1, 1}, told);
+        same(ours, theirs, "rule", new int[] {0, 2 + calls.upTo(8)}, told);
+        String[] between = {"claim", "claim", "claim", "claim", "object", "object", "withdraw", "gates", "rule", "cell", "road"};
+        for (int i = 0; i < 80 && CHECK.wrong() == 0; i++) {
+            String name = between[calls.upTo(between.length - 1)];
+            int who = calls.upTo(people - 1), strip = calls.upTo(strips - 1), day = calls.upTo(12);
+            switch (name) {
+                case "claim": same(ours, theirs, name, new int[] {who, strip, calls.upTo(3), day}, told); break;
+                case "gates": same(ours, theirs, "claim", new int[] {who, 101 + calls.upTo(5), calls.upTo(3), day}, told); break;
+                case "object": same(ours, theirs, name, new int[] {who, strip, day}, told); break;
+                case "rule": same(ours, theirs, name, new int[] {i % 4, calls.upTo(i % 4 == 0 ? 12 : 50)}, told); break;
+                case "road": if (i % 8 == 0) same(ours, theirs, name, new int[] {strip, cells - 1}, told); break;
+                default: same(ours, theirs, name, calls.argumentsOf(name, cells, people, 1), told);
+            }
+            sameClaims(ours, theirs, strip, calls.upTo(12), told);
+        }
+    }
+
+    private static void sameClaims(AwardDesk ours, PlainDesk theirs, int strip, int day, StringBuilder told) throws Exception {
+        same(ours, theirs, "holder", new int[] {strip, day}, told);
+        for (int i = 0; i < theirs.objections.size(); i++) same(ours, theirs, "upheld", new int[] {i}, told);
+        for (int what = 0; what <= 5; what++) same(ours, theirs, "sum", new int[] {what, day}, told);
+        for (int who = 0; who < theirs.people.size(); who++) {
+            for (int what = 0; what <= 4; what++) same(ours, theirs, "has", new int[] {who, what, day}, told);
+        }
+    }
+
+    /** A run that is made for drawing: strips held by several claimants, and roads, and draws again and again. */
+    private static void drawnRun(long seed, boolean isLarge) throws Exception {
+        RandomCalls calls = new RandomCalls(seed, 0);
+        AwardDesk ours = new AwardDesk();
+        PlainDesk theirs = new PlainDesk();
+        StringBuilder told = new StringBuilder();
+        int leastWide = isLarge ? 9 : 3, leastHigh = isLarge ? 7 : 3, leastPeople = isLarge ? 5 : 2, sides = isLarge ? 1 : 4;
+        same(ours, theirs, "land", new int[] {leastWide + calls.upTo(sides), leastHigh + calls.upTo(sides)}, told);
+        int cells = theirs.cells.size(), people = leastPeople + calls.upTo(3);
+        for (int i = 0; i < people; i++) same(ours, theirs, "claimant", new int[] {calls.upTo(4), calls.upTo(cells - 1)}, told);
+        int strips = people + calls.upTo(10);
+        for (int i = 0; i < strips; i++) {
             int cell = calls.upTo(cells - 1);
             same(ours, theirs, "cell", new int[] {cell, 0, calls.upTo(9)}, told);
             same(ours, theirs, "cell", new int[] {cell, 1, 1}, told);
-            same(ours, theirs, "claim", new int[] {calls.upTo(people - 1), cell, calls.upTo(3), calls.upTo(50)}, told);
+            same(ours, theirs, "claim", new int[] {i % people, cell, calls.upTo(3), calls.upTo(50)}, told);
         }
+        if (isLarge) closeMost(calls, ours, theirs, told);
+        // With many plots a small SLACK is hard to meet.
+        same(ours, theirs, "rule", new int[] {4, calls.upTo(4 * leastPeople)}, told);
         for (int i = 0; i <= calls.upTo(2); i++) same(ours, theirs, "road", calls.argumentsOf("road", cells, people, 1), told);
         String[] between = {"cell", "rule", "allot", "take", "claim", "road", "object"};
         for (int i = 0; i < 40 && CHECK.wrong() == 0; i++) {
@@ -83,6 +131,17 @@ public final class RandomRunsTest {
             if (i % 2 == 0) a[0] = 100;
             same(ours, theirs, name, a, told);
             if (i % 2 == 0) samePlots(ours, theirs, told);
+        }
+    }
+
+    /** Leaves so few plain cells that many plots can be drawn with few tries; some of the others are road. */
+    private static void closeMost(RandomCalls calls, AwardDesk ours, PlainDesk theirs, StringBuilder told) throws Exception {
+        int cells = theirs.cells.size();
+        for (int i = 0; i < 2 * cells; i++) {
+            int cell = calls.upTo(cells - 1);
+            if (theirs.told(cell, 1) == 1) continue;
+            same(ours, theirs, "cell", new int[] {cell, 1, 2}, told);
+            same(ours, theirs, "cell", new int[] {cell, 2, calls.upTo(1)}, told);
         }
     }
 
@@ -101,6 +160,7 @@ public final class RandomRunsTest {
         told.append(call).append(" = ").append(want).append('\n');
         CHECK.due(call, got, want);
         if (want >= 0) TOLD.merge(name, 1, Integer::sum);
+        if (want > 0) TOLD.merge(name + "(" + (name.equals("has") ? a[1] : "") + ") above 0", 1, Integer::sum);
         if (name.equals("draw")) TOLD.merge("draw of " + theirs.count(4) + kindOf(want), 1, Integer::sum);
         if (got != want) System.out.println(told);
     }
